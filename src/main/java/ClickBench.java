@@ -38,7 +38,8 @@ public final class ClickBench {
     private final Tape tape = new Tape();
     private final Reader reader = new Reader(tape);
     private final Page[] shelves = new Page[MOST_SHELVES];
-    private final Likeness[] likenesses;
+    private final Likeness[] likenesses = new Likeness[MOST_LIKENESSES];
+    private final int[] forests = new int[Likeness.WIDTH * Likeness.WIDTH];
     private final Finding latestFind = new Finding();
     private final Finding findingOfRun = new Finding();
     private final Samples samples = new Samples();
@@ -49,11 +50,6 @@ public final class ClickBench {
     private int leastGap = 1;
 
     public ClickBench() {
-        likenesses = new Likeness[MOST_LIKENESSES];
-        int[] forests = new int[Likeness.WIDTH * Likeness.WIDTH];
-        for (int i = 0; i < MOST_LIKENESSES; i++) {
-            likenesses[i] = new Likeness(forests);
-        }
     }
 
     public int feed(int a, int b, int c, int d, int e) {
@@ -357,21 +353,30 @@ public final class ClickBench {
         return one == null || other == null ? null : Loop.of(one, other);
     }
 
-    /** Keeps the latest few tables, since a RUN asks again and again for the same two PAGES. */
+    /** The latest few tables are kept, since a RUN asks again and again for the same two PAGES. */
     private Likeness likenessFor(Part part, Page page) {
         Likeness table = null;
         for (int i = 0; i < MOST_LIKENESSES && table == null; i++) {
-            if (likenesses[i].from == part.page && likenesses[i].to == page) {
-                table = likenesses[i];
+            Likeness kept = likenesses[i];
+            if (kept != null && kept.from == part.page && kept.to == page) {
+                table = kept;
             }
         }
         if (table == null) {
-            table = likenesses[oldestLikeness];
-            oldestLikeness = oldestLikeness + 1 < MOST_LIKENESSES ? oldestLikeness + 1 : 0;
+            table = oldestTable();
             table.begin(part.page, page);
         }
         table.measure(part);
         return table;
+    }
+
+    private Likeness oldestTable() {
+        int slot = oldestLikeness;
+        oldestLikeness = slot + 1 < MOST_LIKENESSES ? slot + 1 : 0;
+        if (likenesses[slot] == null) {
+            likenesses[slot] = new Likeness(forests);
+        }
+        return likenesses[slot];
     }
 
     private int tell(boolean click, Part part, Loop rows) {
@@ -886,8 +891,8 @@ public final class ClickBench {
             this.forests = forests;
         }
 
-        private void begin(Page fresh, Page freshTo) {
-            from = fresh;
+        private void begin(Page freshFrom, Page freshTo) {
+            from = freshFrom;
             to = freshTo;
             for (int number = 0; number < MOST_PARTS; number++) {
                 known[number] = false;
@@ -910,7 +915,7 @@ public final class ClickBench {
          * parts go from the last to the first, since each one's forests rest on those behind it.
          */
         private void measure(Part a) {
-            if (known[a.number]) {
+            if (from == null || to == null || known[a.number]) {
                 return;
             }
             for (int i = a.number + a.under; i >= a.number; i--) {
