@@ -129,22 +129,28 @@ final class ModelTest {
         return changed.length() > 1600 ? text : changed.toString();
     }
 
+    /** Seldom a number far outside of all that can be, else the one given. */
+    private int orWild(int number) {
+        int[] wild = {Integer.MIN_VALUE, Integer.MIN_VALUE + 1, -61, 60, 61, 256, 1600, 1 << 30, Integer.MAX_VALUE};
+        return lot.nextInt(60) == 0 ? wild[lot.nextInt(wild.length)] : number;
+    }
+
     private int shelf() {
-        return lot.nextInt(12) == 0 ? lot.nextInt(6) - 1 : lot.nextInt(10) == 0 ? lot.nextInt(4) : lot.nextInt(2);
+        return orWild(lot.nextInt(12) == 0 ? lot.nextInt(6) - 1 : lot.nextInt(lot.nextInt(10) == 0 ? 4 : 2));
     }
 
     private int part(int shelf) {
         int parts = Math.max(1, m.about(10 + shelf));
-        return lot.nextInt(15) == 0 ? lot.nextInt(parts + 3) - 1 : lot.nextInt(parts);
+        return orWild(lot.nextInt(15) == 0 ? lot.nextInt(parts + 3) - 1 : lot.nextInt(parts));
     }
 
     private int marks() {
         int marks = lot.nextInt(20) == 0 ? lot.nextInt(300) - 20 : 1 + lot.nextInt(255);
-        return lot.nextInt(3) == 0 ? 1 << lot.nextInt(8) : marks;
+        return orWild(lot.nextInt(3) == 0 ? 1 << lot.nextInt(8) : marks);
     }
 
     private int small(int most) {
-        return lot.nextInt(most + 2) - 1;
+        return orWild(lot.nextInt(most + 2) - 1);
     }
 
     private void oneCall() {
@@ -198,7 +204,7 @@ final class ModelTest {
     private void fits(int shelf, int a, int marks, int other) {
         int count = m.fits(shelf, a, marks, other);
         due("fits(" + shelf + "," + a + "," + marks + "," + other + ")", x.fits(shelf, a, marks, other), count);
-        int k = lot.nextInt(Math.max(count, 0) + 2) - 1;
+        int k = small(Math.max(count, 0));
         due("fit", x.fit(shelf, a, marks, other, k), m.fit(shelf, a, marks, other, k));
     }
 
@@ -236,8 +242,16 @@ final class ModelTest {
     }
 
     private void rare(int shelf) {
+        int number = orWild(lot.nextInt());
         if (lot.nextInt(3) == 0) {
             due("clear", x.clear(), m.clear());
+        } else if (lot.nextInt(3) == 0) {
+            due("feed", x.feed(number, number, 0, shelf, -1), m.feed(number, number, 0, shelf, -1));
+            due("end", x.end(number), m.end(number));
+            due("about(3)", x.about(3), m.about(3));
+            due("page", x.page(shelf), m.page(shelf));
+            due("fault", x.fault(number & 1), m.fault(number & 1));
+            due("end(0)", x.end(0), m.end(0));
         } else {
             makePage(shelf, someText());
         }
