@@ -1096,7 +1096,8 @@ public final class ClickBench {
             this.shown = shown;
             this.level = level;
             this.firstTurn = firstTurn;
-            this.step = step;
+            // Two TURNS that differ are one apart or more; without that no walk over ROWS would end.
+            this.step = Math.max(1, step);
         }
 
         private static Loop of(Part a, Part b) {
