@@ -13,6 +13,7 @@ final class ModelTest {
     private final int mostParts;
     private final int mostDepth;
     private final String[] kinds;
+    private final String[] texts;
     private int calls = 0;
     private String latest = null;
 
@@ -24,6 +25,8 @@ final class ModelTest {
         mostParts = run % 20 == 0 ? 60 : 4 + lot.nextInt(20);
         mostDepth = run % 20 == 0 ? 12 : 2 + lot.nextInt(5);
         kinds = run % 3 == 0 ? new String[] {"a", "b"} : new String[] {"row", "label", "link", "b", "abcdefgh"};
+        texts = run % 5 == 2 ? new String[] {"0123456789ABCDEF", "0123456789ABCDEG", "12345678", "123456789", "~"}
+                : new String[] {"xy", "y", ""};
     }
 
     public static void main(String[] args) {
@@ -95,7 +98,7 @@ final class ModelTest {
             text.append('#').append((char) ('p' + lot.nextInt(2)));
         }
         if (lot.nextInt(2) == 0) {
-            text.append('"').append("xy".substring(lot.nextInt(3))).append('"');
+            text.append('"').append(texts[lot.nextInt(texts.length)]).append('"');
         }
         if (lot.nextInt(25) == 0) {
             text.append('!');
@@ -163,7 +166,7 @@ final class ModelTest {
         boolean click = lot.nextBoolean();
         switch (lot.nextInt(27)) {
             case 0 -> partCall(shelf, a, small(9));
-            case 1 -> due("text", x.text(shelf, a, k, k & 1), m.text(shelf, a, k, k & 1));
+            case 1 -> textCall(shelf, a, small(3), small(17));
             case 2, 3 -> due("far(" + shelf + "," + a + "," + other + "," + b + ")",
                     x.far(shelf, a, other, b), m.far(shelf, a, other, b));
             case 4, 5 -> due("cost", x.cost(shelf, a, other, b), m.cost(shelf, a, other, b));
@@ -183,6 +186,10 @@ final class ModelTest {
         }
     }
 
+    private void textCall(int shelf, int a, int what, int k) {
+        String call = "text(" + shelf + "," + a + "," + what + "," + k + ")";
+        due(call, x.text(shelf, a, what, k), m.text(shelf, a, what, k));
+    }
 
     private void partCall(int shelf, int a, int what) {
         due("part(" + shelf + "," + a + "," + what + ")", x.part(shelf, a, what), m.part(shelf, a, what));
@@ -234,7 +241,7 @@ final class ModelTest {
             due("ran(" + what + ")", x.ran(what), m.ran(what));
         }
         int j = small(Math.min(45, Math.max(m.ran(3), 1)));
-        int k = small(2);
+        int k = small(lot.nextInt(4) == 0 ? 17 : 2);
         due("read(" + j + "," + k + ")", x.read(j, k), m.read(j, k));
         for (int part = 0; part < 3; part++) {
             due("clicks", x.part(shelf, part, 8), m.part(shelf, part, 8));
