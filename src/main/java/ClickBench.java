@@ -397,13 +397,14 @@ public final class ClickBench {
         }
         Likeness likeness = likenessFor(told.part, page);
         int answer = findingOfRun.look(told.part, page, likeness, leastGap);
-        if (answer == MISSING) {
+        Part best = findingOfRun.best;
+        if (answer == MISSING || best == null) {
             return latestRun.stop(Run.AT_MISSING, null);
         }
         if (answer == DOUBTFUL) {
-            return latestRun.stop(Run.AT_DOUBTFUL, findingOfRun.best);
+            return latestRun.stop(Run.AT_DOUBTFUL, best);
         }
-        return latestRun.take(findingOfRun.best, told.click);
+        return latestRun.take(best, told.click);
     }
 
     private boolean performRows(Loop rows, boolean click, Page page) {
@@ -846,7 +847,8 @@ public final class ClickBench {
         private int countFitting(Part told, int marks) {
             int fitting = 0;
             for (int number = 0; number < count; number++) {
-                if (parts[number].fitsMarksOf(told, marks)) {
+                Part one = at(number);
+                if (one != null && one.fitsMarksOf(told, marks)) {
                     fitting++;
                 }
             }
@@ -856,9 +858,10 @@ public final class ClickBench {
         private Part fitting(Part told, int marks, int k) {
             int ahead = k;
             for (int number = 0; number < count && ahead >= 0; number++) {
-                if (parts[number].fitsMarksOf(told, marks)) {
+                Part one = at(number);
+                if (one != null && one.fitsMarksOf(told, marks)) {
                     if (ahead == 0) {
-                        return parts[number];
+                        return one;
                     }
                     ahead--;
                 }
@@ -950,10 +953,16 @@ public final class ClickBench {
             }
             for (int i = endA - 1; i >= a.number; i--) {
                 forests[i * WIDTH + endB] = (endA - i) * ONE_PART;
-                Part one = from.parts[i];
+                Part one = from.at(i);
+                if (one == null) {
+                    return;
+                }
                 int behindOne = i + one.under + 1;
                 for (int j = endB - 1; j >= b.number; j--) {
-                    Part other = to.parts[j];
+                    Part other = to.at(j);
+                    if (other == null) {
+                        return;
+                    }
                     int behindOther = j + other.under + 1;
                     int at = i * WIDTH + j;
                     int least = Math.min(forests[at + WIDTH], forests[at + 1]) + ONE_PART;

@@ -1,6 +1,6 @@
 import java.nio.charset.StandardCharsets;
 
-/** What all tests share: counting wrong answers, and putting texts on the tape. */
+/** What all tests share: counting wrong answers, making pages, and answers that many calls ask for. */
 final class Check {
     static final int NONE = -1;
     static final int MIN = Integer.MIN_VALUE;
@@ -9,11 +9,13 @@ final class Check {
     static final int[] NO_SHELVES = {-1, 4, 5, MIN, MAX};
 
     private String test = "";
+    private int tests = 0;
     private int askedBefore = 0;
     private int wrong = 0;
     private int asked = 0;
 
     void begin(String name) {
+        tests++;
         test = name + ": ";
         askedBefore = asked;
     }
@@ -38,7 +40,8 @@ final class Check {
 
     /** Ends the program: with exit code 1 if an answer was wrong, or none was asked for. */
     void finish() {
-        System.out.println("  " + asked + " answers, " + wrong + " wrong");
+        String count = tests == 0 ? "" : tests + " tests, ";
+        System.out.println("  " + count + asked + " answers, " + wrong + " wrong");
         if (wrong != 0 || asked == 0) {
             System.exit(1);
         }

@@ -11,8 +11,7 @@ final class Promise {
 
     static void run(Class<?> tests) {
         Check check = new Check();
-        List<Method> all = testsOf(tests);
-        for (Method test : all) {
+        for (Method test : testsOf(tests)) {
             check.begin(tests.getSimpleName() + "." + test.getName());
             try {
                 test.invoke(null, check);
@@ -24,7 +23,6 @@ final class Promise {
             }
             check.end();
         }
-        System.out.println("  " + all.size() + " tests");
         check.finish();
     }
 
