@@ -408,8 +408,8 @@ public final class ClickBench {
     }
 
     private boolean performRows(Loop rows, boolean click, Page page) {
-        for (int turn = rows.firstTurn; turn < MOST_PARTS; turn += rows.step) {
-            Part one = rows.atTurn(page, turn);
+        for (int k = 0; k < MOST_PARTS; k++) {
+            Part one = rows.stepOn(page, k);
             if (one == null) {
                 return true;
             }
@@ -523,7 +523,7 @@ public final class ClickBench {
             textHead = 0;
             textTail = 0;
             textLength = 0;
-            while (textLength < MOST_TEXT && isTextByte(tape.byteAt(at))) {
+            for (int k = 0; k < MOST_TEXT && isTextByte(tape.byteAt(at)); k++) {
                 putTextByte(tape.byteAt(at));
                 at++;
             }
@@ -910,7 +910,8 @@ public final class ClickBench {
         }
 
         private int farOf(Part a, Part b) {
-            return fars[a.number * MOST_PARTS + b.number];
+            int at = a.number * MOST_PARTS + b.number;
+            return at < 0 || at >= fars.length ? NONE : fars[at];
         }
 
         /**
@@ -918,16 +919,17 @@ public final class ClickBench {
          * parts go from the last to the first, since each one's forests rest on those behind it.
          */
         private void measure(Part a) {
-            if (from == null || to == null || known[a.number]) {
+            int last = a.number + a.under;
+            if (from == null || to == null || last >= from.count || known[a.number]) {
                 return;
             }
-            for (int i = a.number + a.under; i >= a.number; i--) {
+            for (int i = last; i >= a.number; i--) {
                 Part key = from.at(i);
-                if (key != null && !known[i] && (key.right != null || key == a)) {
+                if (key != null && !known[i] && (key.right != null || i == a.number)) {
                     measureKey(key);
                 }
             }
-            for (int i = a.number; i <= a.number + a.under; i++) {
+            for (int i = a.number; i <= last; i++) {
                 known[i] = true;
             }
         }
@@ -954,13 +956,13 @@ public final class ClickBench {
             for (int i = endA - 1; i >= a.number; i--) {
                 forests[i * WIDTH + endB] = (endA - i) * ONE_PART;
                 Part one = from.at(i);
-                if (one == null) {
+                if (one == null || i + one.under >= endA) {
                     return;
                 }
                 int behindOne = i + one.under + 1;
                 for (int j = endB - 1; j >= b.number; j--) {
                     Part other = to.at(j);
-                    if (other == null) {
+                    if (other == null || j + other.under >= endB) {
                         return;
                     }
                     int behindOther = j + other.under + 1;
@@ -1053,7 +1055,7 @@ public final class ClickBench {
             Page page = fresh.page;
             for (int number = 0; number < page.count; number++) {
                 Part other = page.at(number);
-                if (other != null && other != fresh) {
+                if (other != null && number != fresh.number) {
                     noteShared(other.marksSharedWith(fresh));
                 }
             }
@@ -1061,7 +1063,7 @@ public final class ClickBench {
 
         /** Who FITS some MARKS FITS each set of them, too; what is noted has its sets noted already. */
         private void noteShared(int marks) {
-            if (shared[marks]) {
+            if (marks < 0 || marks > ALL_MARKS || shared[marks]) {
                 return;
             }
             for (int set = marks; set > 0; set = (set - 1) & marks) {
@@ -1105,8 +1107,7 @@ public final class ClickBench {
             this.shown = shown;
             this.level = level;
             this.firstTurn = firstTurn;
-            // Two TURNS that differ are one apart or more; without that no walk over ROWS would end.
-            this.step = Math.max(1, step);
+            this.step = step;
         }
 
         private static Loop of(Part a, Part b) {
@@ -1136,7 +1137,9 @@ public final class ClickBench {
             return new Loop(a, apart.above, lower, Math.abs(apart.turn - otherApart.turn));
         }
 
-        private Part atTurn(Page page, int turn) {
+        /** The PART so many steps on, whether or not those ahead of it are there. */
+        private Part stepOn(Page page, int k) {
+            int turn = firstTurn + k * step;
             for (int number = 0; number < page.count; number++) {
                 Part one = page.at(number);
                 if (one != null && one.hasPathOf(shown, level, turn)) {
@@ -1148,23 +1151,18 @@ public final class ClickBench {
 
         private int countRows(Page page) {
             int rows = 0;
-            for (int turn = firstTurn; turn < MOST_PARTS; turn += step) {
-                if (atTurn(page, turn) == null) {
-                    break;
-                }
+            while (rows < MOST_PARTS && stepOn(page, rows) != null) {
                 rows++;
             }
             return rows;
         }
 
         private Part rowOn(Page page, int k) {
-            int ahead = k;
-            for (int turn = firstTurn; turn < MOST_PARTS && ahead >= 0; turn += step) {
-                Part one = atTurn(page, turn);
-                if (one == null || ahead == 0) {
+            for (int row = 0; row < MOST_PARTS && row <= k; row++) {
+                Part one = stepOn(page, row);
+                if (one == null || row == k) {
                     return one;
                 }
-                ahead--;
             }
             return null;
         }
