@@ -15,6 +15,17 @@ final class Promise21RowTest {
         check.due("by two", x.row(0, 1, 6, 1, 1), 5);
     }
 
+    @Says("The k-th of them")
+    static void notFromTurnZeroOn(Check check) {
+        ClickBench x = Check.with("p(a a a a)", "p(a a b a a a a a)");
+        int[] due = {2, 5, 7};
+        for (int k = 0; k < due.length; k++) {
+            check.due("row " + k, x.row(0, 2, 4, 1, k), due[k]);
+            check.due("row " + k + ", turned", x.row(0, 4, 2, 1, k), due[k]);
+        }
+        check.due("none behind", x.row(0, 2, 4, 1, due.length), -1);
+    }
+
     @Says("NONE.")
     static void noSuchK(Check check) {
         ClickBench x = Check.with("p(a a)", "q");

@@ -17,6 +17,20 @@ final class Promise23LoopTest {
         check.read(x, 2, "z");
     }
 
+    /** The TURN that differs stands between others, neither of them 0, and the higher one is told first. */
+    @Says("An ACT: likewise of a LOOP of two PARTS of a SHELF")
+    static void fromWhereItBeginsByItsSteps(Check check) {
+        String row = "r(a a\"x\")";
+        ClickBench x = Check.with("p(q s s(" + row.repeat(4) + "))", "p(q s s(" + row.repeat(7) + ") s(" + row + "))");
+        check.due("a loop", x.loop(true, 0, 15, 9), 1);
+        check.due("run", x.run(1), 1);
+        check.ran(x, 0, -1, 3, 0);
+        for (int part = 0; part < x.about(11); part++) {
+            boolean due = part == 9 || part == 15 || part == 21;
+            check.due("clicks on " + part, x.part(1, part, 8), due ? 1 : 0);
+        }
+    }
+
     @Says("An ACT: likewise of a LOOP of two PARTS of a SHELF")
     static void asItWasThen(Check check) {
         ClickBench x = Check.with("p(r(a) r(a))", "p(r(a\"1\") r(a\"2\") r(a\"3\"))");

@@ -62,6 +62,24 @@ final class Promise25RunTest {
         check.clicks(x, 0, 0, 0, 0);
     }
 
+    @Says({"of a LOOP ROW by ROW", "(its ROWS as they are when the ACT begins)"})
+    static void itsRowsEndAtTheFirstThatIsNotThere(Check check) {
+        ClickBench x = Check.with("p(r(a) r(a\"1\") r r(a\"3\"))", "p(r r(a\"1\") r r(a\"3\") r r(b) r r(a\"7\"))");
+        x.loop(false, 0, 4, 7);
+        x.loop(true, 0, 7, 4);
+        check.due("from the second on by two", x.run(0), 2);
+        check.ran(x, 0, -1, 2, 2);
+        check.clicks(x, 0, 0, 0, 0, 0, 1, 0, 0, 1);
+        check.due("the third row is not there", x.run(1), 2);
+        check.ran(x, 0, -1, 2, 2);
+        check.read(x, 0, "1");
+        check.read(x, 1, "3");
+        check.clicks(x, 1, 0, 0, 0, 1, 0, 0, 1, 0, 0, 0, 0, 0, 0);
+        x.loop(false, 0, 2, 4);
+        check.due("the first row is not there", x.run(1), 3);
+        check.ran(x, 0, -1, 2, 2);
+    }
+
     @Says("a PART is FOUND, as told")
     static void foundAsTold(Check check) {
         ClickBench x = Check.with("p(x b y)", "p(x\"t\" b\"1\" y x b\"2\" y)");
